@@ -8,6 +8,8 @@ public final class AllTests {
         BandTest.run();
         ShotsTest.run();
         LookedAtTest.run();
+        LanguageTest.run();
+        ComparedRuns.run();
         System.out.println("answers: " + Check.passed + " passed, " + Check.failed + " failed");
         if (Check.failed != 0) {
             System.exit(1);

@@ -12,6 +12,8 @@ final class BandTest {
         bandStaysWhenShotsGo();
         wide();
         amissAtTheEdges();
+        amissInTheFill();
+        amissInTheLastTick();
         badByTwoAmiss();
         badByLength();
         badByFilling();
@@ -157,6 +159,35 @@ final class BandTest {
         Check.same("taught, not wide", m.shot(0, 7), 0);
     }
 
+    private static void amissInTheFill() {
+        MouldShots m = plain();
+        Check.cycle(m);
+        m.teach(0);
+        int[] drags = {3, 4, 9};
+        int[] amiss = {2, 3, 3};
+        for (int i = 0; i < 3; i++) {
+            m.drag(0, drags[i]);
+            Check.same("amiss with drag " + drags[i], m.shot(Check.cycle(m), 7), amiss[i]);
+        }
+    }
+
+    private static void amissInTheLastTick() {
+        MouldShots m = Check.laid("v30,1,9;v30,1,9;s0,1;o99,99,40;h30,20,0;");
+        Check.cycle(m);
+        Check.same("the whole length", m.shot(0, 1), 60);
+        Check.same("the last tick", m.curve(0, 60), 30);
+        MouldShots full = Check.laid("v20,1,9;v20,1,9;s0,1;o99,99,40;h30,20,0;");
+        Check.cycle(full);
+        Check.same("teach", full.teach(0), 1);
+        Check.same("band in the last tick", full.band(60, 0), 30);
+        full.tell(4, 19);
+        Check.cycle(full);
+        Check.same("without the last tick", full.shot(1, 7), 1);
+        full.tell(4, 18);
+        Check.cycle(full);
+        Check.same("without the last two", full.shot(2, 7), 2);
+    }
+
     private static void badByTwoAmiss() {
         MouldShots m = plain();
         shootWith(m, TICKS, 1);
@@ -218,6 +249,28 @@ final class BandTest {
         Check.filled(two, 0, 1, 0, 9, 0);
         Check.same("the second is short", two.teach(0), NO);
         Check.same("the second is short by much", two.shot(0, 8), 1);
+        MouldShots six = Check.laid("v1,1,1;v1,1,1;v1,1,1;v1,1,1;v1,1,1;v3,1,1;s0,1;o99,99,8;h0,0,0;");
+        Check.cycle(six);
+        Check.same("six that are full", six.teach(0), 1);
+        Check.same("six that are full", six.shot(0, 8), 0);
+        six.tell(TIME, 7);
+        Check.cycle(six);
+        Check.same("the sixth is short by one", six.teach(1), NO);
+        six.tell(TIME, 6);
+        Check.cycle(six);
+        six.forget();
+        Check.same("the sixth is short by one", six.shot(1, 8), 0);
+        Check.same("the sixth is short by two", six.shot(2, 8), 1);
+        Check.type(six, "v1,1,1;s0,1;o99,99,1;");
+        six.lay();
+        Check.cycle(six);
+        Check.same("cavities of what was laid ahead are gone", six.shot(0, 8), 0);
+        Check.same("cavities of what was laid ahead are gone", six.teach(0), 1);
+        Check.type(six, "v1,1,1;s0,1;o99,99,1;h0,0,0;");
+        six.lay();
+        Check.cycle(six);
+        Check.same("laid a third time", six.shot(0, 8), 0);
+        Check.same("laid a third time", six.teach(0), 1);
     }
 
     private static void countOfBad() {

@@ -16,6 +16,7 @@ final class ShotsTest {
         fullInTheHold();
         balance();
         shotsStayAsMade();
+        nothingIsLeftOfOldShots();
         wrongNumbers();
         triedIsWhatIsNow();
         triedBounds();
@@ -166,6 +167,29 @@ final class ShotsTest {
         Check.cycle(m);
         Check.shot(m, 0, due);
         Check.yes("the next is another", m.shot(1, 1) != 16);
+    }
+
+    /** Rows are used again: a shot of which less comes must not show what an old one had. */
+    private static void nothingIsLeftOfOldShots() {
+        MouldShots m = Check.laid("v3,1,2;v3,9,1;s0,9;o99,99,3;h0,9,3;");
+        for (int i = 0; i < 17; i++) {
+            Check.cycle(m);
+        }
+        m.tell(2, 1);
+        m.tell(4, 0);
+        m.speed(0, 1);
+        for (int i = 0; i < 6; i++) {
+            Check.same("tried", m.tried(0, 6), 1);
+            Check.cycle(m);
+            int s = m.count(6) - 1;
+            Check.filled(m, s, 0, 1, 2, 0, NONE, 1);
+            Check.filled(m, s, 1, 0, 3, 0, NONE, NONE);
+            Check.shot(m, s, 1, 1, 2, 98, 0, 4, 1);
+        }
+        m.tell(3, 99);
+        m.tell(4, 2);
+        Check.cycle(m);
+        Check.filled(m, 11, 1, 1, 2, 0, NONE, 2);
     }
 
     private static void wrongNumbers() {
