@@ -1,432 +1,521 @@
-/** Promises 6 to 14: mould, core, against, drag, speed, tell, shoot, waitCool, undo. */
+import java.util.List;
+import java.util.function.Consumer;
+
+/** Promises 6 to 13 and the motions of part 3 of the terms: mould, core, against, drag, speed, tell, shoot, waitCool. */
 final class MotionsTest {
     private static final int BAD = MouldShots.BAD, NO = MouldShots.NO, NONE = MouldShots.NONE;
-    private static final int[] WRONG_FLAGS = {-1, 2, Integer.MAX_VALUE, Integer.MIN_VALUE};
+    private static final int MOST = Integer.MAX_VALUE, LEAST = Integer.MIN_VALUE;
+    private static final int[] NO_FLAGS = {-1, 2, MOST, LEAST};
+    private static final int[] NO_CORES = {-1, 3, 4, 9, 32, 33, MOST, LEAST};
+    private static final String NO_CORE = "v3,1,9;s0,1;";
+    private static final String CHAIN = NO_CORE + "c1;c2;c3;c9;";
 
     private MotionsTest() { }
 
-    static void run() {
-        mould();
-        mouldWithoutCores();
-        coresGoInInOrder();
-        coresGoOutInOrder();
-        againstInItsOrder();
-        drag();
-        speed();
-        tell();
-        shootAndCool();
-        coolingIsOfTheShot();
-        undoOfEachChange();
-        undoGoesBackFour();
-        undoBringsShotsBack();
-        refusedCallsChangeNothing();
+    // ---- promise 6: mould
+
+    static void promise6_badWithNeither0Nor1() {
+        for (int is : NO_FLAGS) {
+            Refused.call("mould(" + is + "), open", Ways.NEW, BAD, m -> m.mould(is));
+            Refused.call("mould(" + is + "), hot", Ways.HOT, BAD, m -> m.mould(is));
+        }
     }
 
-    private static void mould() {
-        MouldShots m = new MouldShots();
-        for (int is : WRONG_FLAGS) {
-            Check.same("mould(" + is + ")", m.mould(is), BAD);
-        }
-        Check.same("opens, is open", m.mould(0), NO);
-        Check.same("shuts", m.mould(1), 0);
-        Check.same("is shut", m.count(3), 1);
-        Check.same("shuts, is shut", m.mould(1), NO);
-        Check.same("opens, nothing in it", m.mould(0), 0);
-        m.mould(1);
-        m.core(1, 1);
-        Check.same("opens with a core in", m.mould(0), NO);
-        m.core(1, 0);
-        Check.ready(m);
-        m.shoot();
-        Check.same("opens on a hot shot", m.mould(0), NO);
-        m.waitCool();
-        Check.same("opens with cores in", m.mould(0), NO);
-        m.core(0, 0);
-        m.core(2, 0);
-        m.core(1, 0);
-        Check.same("in it", m.count(5), 1);
-        Check.same("falls out", m.mould(0), 1);
-        Check.same("nothing in it", m.count(5), 0);
-        Check.same("shuts, nothing falls out", m.mould(1), 0);
-        Check.same("opens, nothing falls out", m.mould(0), 0);
+    static void promise6_noWhenItIsSo() {
+        Refused.call("mould(0), open", Ways.NEW, NO, m -> m.mould(0));
+        Refused.call("mould(0), open again", Ways.FALLEN, NO, m -> m.mould(0));
+        Refused.call("mould(1), shut", Ways.SHUT, NO, m -> m.mould(1));
+        Refused.call("mould(1), hot", Ways.HOT, NO, m -> m.mould(1));
     }
 
-    private static void mouldWithoutCores() {
-        MouldShots m = Check.laid("v1,1,1;s0,1;");
-        Check.same("not ready while open", m.count(11), 0);
-        Check.same("shoot while open", m.shoot(), NO);
-        Check.same("core(0, 1)", m.core(0, 1), BAD);
-        Check.same("against(0, 1)", m.against(0, 1), BAD);
-        m.mould(1);
-        Check.same("ready without cores", m.count(11), 1);
-        Check.yes("shoot", m.shoot() > 0);
-        Check.same("opens while hot", m.mould(0), NO);
-        m.waitCool();
-        Check.same("falls out", m.mould(0), 1);
+    static void promise6_shutsAndOpensWithNothingInIt() {
+        Watched m = new Watched();
+        for (int times = 0; times < 3; times++) {
+            Check.same("mould(1)", m.mould(1), 0);
+            Check.same("count(3)", m.count(3), 1);
+            Check.same("mould(0)", m.mould(0), 0);
+            Check.same("count(3)", m.count(3), 0);
+        }
     }
 
-    private static void coresGoInInOrder() {
-        MouldShots m = new MouldShots();
-        for (int is : WRONG_FLAGS) {
-            Check.same("core(0, " + is + ")", m.core(0, is), BAD);
-        }
-        int[] wrongCores = {-1, 3, 4, 9, Integer.MAX_VALUE, Integer.MIN_VALUE};
-        for (int c : wrongCores) {
-            Check.same("core(" + c + ", 1)", m.core(c, 1), BAD);
-            Check.same("core(" + c + ", 0)", m.core(c, 0), BAD);
-        }
-        Check.same("in while open", m.core(1, 1), NO);
-        Check.same("out while out", m.core(1, 0), NO);
-        m.mould(1);
-        Check.same("in ahead of its earlier", m.core(0, 1), NO);
-        Check.same("in ahead of its earlier", m.core(2, 1), NO);
-        Check.same("in", m.core(1, 1), 1);
-        Check.same("in twice", m.core(1, 1), NO);
-        Check.same("second in", m.core(2, 1), 2);
-        Check.same("cores in", m.count(4), 2);
-        Check.same("not ready", m.count(11), 0);
-        Check.same("third in", m.core(0, 1), 3);
-        Check.same("ready", m.count(11), 1);
-        m.core(2, 0);
-        m.core(0, 0);
-        m.core(1, 0);
-        Check.ready(m);
-        m.shoot();
-        m.waitCool();
-        m.core(2, 0);
-        Check.same("in while a shot is in it", m.core(2, 1), NO);
-        m.core(0, 0);
-        m.core(1, 0);
-        Check.same("in while a shot is in it", m.core(1, 1), NO);
-    }
-
-    private static void coresGoOutInOrder() {
-        MouldShots m = new MouldShots();
-        Check.ready(m);
-        Check.same("out ahead of two", m.core(1, 0), NO);
-        Check.same("out", m.core(0, 0), 2);
-        Check.same("out ahead of one", m.core(1, 0), NO);
-        Check.same("out", m.core(2, 0), 1);
-        Check.same("out at last", m.core(1, 0), 0);
-        Check.ready(m);
-        m.shoot();
-        for (int c = 0; c < 3; c++) {
-            Check.same("out while hot", m.core(c, 0), NO);
-        }
-        m.waitCool();
-        Check.same("out of the cool", m.core(2, 0), 2);
-        MouldShots chain = Check.laid("v1,1,1;s0,1;c1;c2;c3;c9;");
-        chain.mould(1);
-        int[] bars = {1, 2, 3};
-        for (int c = 0; c < 3; c++) {
-            Check.same("chain, core " + c + " goes in", chain.against(c, 1), 4 + bars[c]);
-            Check.same("chain, core " + c + " goes in", chain.core(c, 1), NO);
-        }
-        for (int c = 3; c >= 0; c--) {
-            Check.same("chain in", chain.core(c, 1), 4 - c);
-        }
-        for (int c = 1; c < 4; c++) {
-            Check.same("chain, core " + c + " goes out", chain.against(c, 0), 4 + c - 1);
-            Check.same("chain, core " + c + " goes out", chain.core(c, 0), NO);
-        }
+    static void promise6_noWhileAnyCoreIsIn() {
         for (int c = 0; c < 4; c++) {
-            Check.same("chain out", chain.core(c, 0), 3 - c);
+            int core = c;
+            Consumer<Watched> oneIn = Ways.laid(NO_CORE + "c9;c9;c9;c9;").andThen(Ways.SHUT).andThen(m -> m.core(core, 1));
+            Refused.call("mould(0), core " + c + " in", oneIn, NO, m -> m.mould(0));
+        }
+        Refused.call("mould(0), cool, one core out", Ways.COOL_ONE_OUT, NO, m -> m.mould(0));
+        Refused.call("mould(0), cool, all in", Ways.COOL, NO, m -> m.mould(0));
+    }
+
+    static void promise6_noWhileItIsHot() {
+        Refused.call("mould(0), hot", Ways.HOT, NO, m -> m.mould(0));
+        Consumer<Watched> hot = Ways.laid(NO_CORE).andThen(Ways.HOT);
+        Refused.call("mould(0), hot, no cores", hot, NO, m -> m.mould(0));
+    }
+
+    static void promise6_theShotFallsOut() {
+        Watched m = Ways.gone(Ways.COOL_ALL_OUT);
+        Check.same("count(5)", m.count(5), 1);
+        Check.same("mould(0)", m.mould(0), 1);
+        Check.same("count(5)", m.count(5), 0);
+        Check.same("count(3)", m.count(3), 0);
+        Check.same("it is kept", m.count(6), 1);
+        Check.same("mould(1)", m.mould(1), 0);
+        Check.same("mould(0), nothing in it", m.mould(0), 0);
+    }
+
+    static void promise6_theShotFallsOutWithoutCores() {
+        Watched m = Ways.gone(Ways.laid(NO_CORE).andThen(Ways.COOL));
+        Check.same("mould(0)", m.mould(0), 1);
+        Check.same("mould(0) again", m.mould(0), NO);
+    }
+
+    // ---- promise 7: core
+
+    static void promise7_badWithNoCore() {
+        for (int c : NO_CORES) {
+            Refused.call("core(" + c + ", 1)", Ways.SHUT, BAD, m -> m.core(c, 1));
+            Refused.call("core(" + c + ", 0)", Ways.READY, BAD, m -> m.core(c, 0));
+        }
+        Consumer<Watched> noCores = Ways.laid(NO_CORE).andThen(Ways.SHUT);
+        Refused.call("core(0, 1), no cores", noCores, BAD, m -> m.core(0, 1));
+        Consumer<Watched> four = Ways.laid(CHAIN).andThen(Ways.SHUT);
+        Refused.call("core(4, 1), four cores", four, BAD, m -> m.core(4, 1));
+        Check.same("core(3, 1), four cores", Ways.gone(four).core(3, 1), 1);
+    }
+
+    static void promise7_badWithNeither0Nor1() {
+        for (int is : NO_FLAGS) {
+            Refused.call("core(1, " + is + ")", Ways.SHUT, BAD, m -> m.core(1, is));
         }
     }
 
-    private static void againstInItsOrder() {
-        MouldShots m = new MouldShots();
-        for (int is : WRONG_FLAGS) {
-            Check.same("against(0, " + is + ")", m.against(0, is), BAD);
-        }
-        Check.same("against(-1, 1)", m.against(-1, 1), BAD);
-        Check.same("against(3, 0)", m.against(3, 0), BAD);
-        Check.same("is out", m.against(0, 0), 1);
-        Check.same("in while open, its earlier out", m.against(0, 1), 2);
-        m.mould(1);
-        Check.same("earlier is out", m.against(2, 1), 5);
-        Check.same("nothing", m.against(1, 1), 0);
-        Check.ready(m);
-        Check.same("is in", m.against(2, 1), 1);
-        Check.same("nothing against going out", m.against(2, 0), 0);
-        Check.same("lowest that is in", m.against(1, 0), 4);
-        m.core(0, 0);
-        Check.same("the other that is in", m.against(1, 0), 6);
-        m.core(0, 1);
-        m.shoot();
-        Check.same("hot", m.against(1, 0), 3);
-        Check.same("is in, though hot", m.against(1, 1), 1);
-        m.waitCool();
-        Check.same("cool, out", m.against(1, 0), 4);
-        Check.same("cool, out", m.against(0, 0), 0);
-        m.core(0, 0);
-        m.core(2, 0);
-        m.core(1, 0);
-        Check.same("a shot is in it", m.against(1, 1), 3);
-        Check.same("a shot is in it, ahead of the earlier one", m.against(0, 1), 3);
-        m.mould(0);
-        Check.same("open goes first", m.against(0, 1), 2);
+    static void promise7_badGoesAheadOfNo() {
+        Refused.call("core(1, 2), open", Ways.NEW, BAD, m -> m.core(1, 2));
+        Refused.call("core(3, 0), open, all out", Ways.NEW, BAD, m -> m.core(3, 0));
+        Refused.call("core(0, -1), hot", Ways.HOT, BAD, m -> m.core(0, -1));
     }
 
-    private static void drag() {
-        MouldShots m = new MouldShots();
-        int[][] wrong = {{-1, 1}, {3, 1}, {0, 0}, {0, 10}, {0, -1}, {Integer.MIN_VALUE, 2}, {0, Integer.MAX_VALUE}, {3, 0}};
+    static void promise7_noWhenItIsSo() {
+        for (int c = 0; c < 3; c++) {
+            int core = c;
+            Refused.call("core(" + c + ", 0), out", Ways.SHUT, NO, m -> m.core(core, 0));
+            Refused.call("core(" + c + ", 1), in", Ways.READY, NO, m -> m.core(core, 1));
+        }
+    }
+
+    static void promise7_inNotWhileOpen() {
+        for (int c = 0; c < 3; c++) {
+            int core = c;
+            Refused.call("core(" + c + ", 1), open", Ways.NEW, NO, m -> m.core(core, 1));
+        }
+    }
+
+    static void promise7_inNotWhileAShotIsInIt() {
+        Refused.call("core(2, 1), a cool one in it", Ways.COOL_ONE_OUT, NO, m -> m.core(2, 1));
+        Refused.call("core(1, 1), a cool one in it", Ways.COOL_ALL_OUT, NO, m -> m.core(1, 1));
+    }
+
+    static void promise7_inOnlyWhileTheEarlierOneIs() {
+        Refused.call("core(0, 1), 1 out", Ways.SHUT, NO, m -> m.core(0, 1));
+        Refused.call("core(2, 1), 1 out", Ways.SHUT, NO, m -> m.core(2, 1));
+        Watched m = Ways.gone(Ways.ONE_IN);
+        Check.same("core(2, 1), 1 in", m.core(2, 1), 2);
+        Check.same("core(0, 1), 1 in", m.core(0, 1), 3);
+    }
+
+    static void promise7_outNotWhileHot() {
+        for (int c = 0; c < 3; c++) {
+            int core = c;
+            Refused.call("core(" + c + ", 0), hot", Ways.HOT, NO, m -> m.core(core, 0));
+        }
+    }
+
+    static void promise7_outWhileACoolOneIsInIt() {
+        Watched m = Ways.gone(Ways.COOL);
+        Check.same("core(0, 0)", m.core(0, 0), 2);
+        Check.same("core(2, 0)", m.core(2, 0), 1);
+        Check.same("core(1, 0)", m.core(1, 0), 0);
+    }
+
+    static void promise7_outOnlyWhileAllAreOutWhoseEarlierOneItIs() {
+        Refused.call("core(1, 0), 0 and 2 in", Ways.READY, NO, m -> m.core(1, 0));
+        Refused.call("core(1, 0), 0 in", Ways.ONE_IN.andThen(m -> m.core(0, 1)), NO, m -> m.core(1, 0));
+        Refused.call("core(1, 0), 2 in", Ways.ONE_IN.andThen(m -> m.core(2, 1)), NO, m -> m.core(1, 0));
+        Check.same("core(1, 0), both out", Ways.gone(Ways.ONE_IN).core(1, 0), 0);
+    }
+
+    static void promise7_tellsHowManyAreIn() {
+        Watched m = Ways.gone(Ways.laid(CHAIN).andThen(Ways.SHUT));
+        for (int times = 0; times < 2; times++) {
+            for (int c = 3; c >= 0; c--) {
+                Check.same("core(" + c + ", 1)", m.core(c, 1), 4 - c);
+                Check.same("count(4)", m.count(4), 4 - c);
+            }
+            for (int c = 0; c < 4; c++) {
+                Check.same("core(" + c + ", 0)", m.core(c, 0), 3 - c);
+                Check.same("count(4)", m.count(4), 3 - c);
+            }
+        }
+    }
+
+    static void promise7_inAChainOneBehindTheOther() {
+        Consumer<Watched> shut = Ways.laid(CHAIN).andThen(Ways.SHUT);
+        for (int c = 0; c < 3; c++) {
+            int core = c;
+            Refused.call("core(" + c + ", 1), all out", shut, NO, m -> m.core(core, 1));
+            Refused.call("core(" + (c + 1) + ", 0), all in", shut.andThen(Ways.allFourIn()), NO, m -> m.core(core + 1, 0));
+        }
+    }
+
+    // ---- promise 8: against
+
+    static void promise8_badWithNoCoreNorFlag() {
+        for (int c : NO_CORES) {
+            Refused.call("against(" + c + ", 1)", Ways.SHUT, BAD, m -> m.against(c, 1));
+            Refused.call("against(" + c + ", 0)", Ways.SHUT, BAD, m -> m.against(c, 0));
+        }
+        for (int is : NO_FLAGS) {
+            Refused.call("against(0, " + is + ")", Ways.SHUT, BAD, m -> m.against(0, is));
+        }
+        Check.same("against(0, 1), no cores", Watched.laid(NO_CORE).against(0, 1), BAD);
+        Check.same("against(4, 1), four cores", Watched.laid(CHAIN).against(4, 1), BAD);
+        Check.same("against(3, 1), four cores", Watched.laid(CHAIN).against(3, 1), 2);
+    }
+
+    private static void against(String what, Consumer<Watched> way, int is, int... due) {
+        Watched m = Ways.gone(way);
+        for (int c = 0; c < due.length; c++) {
+            Check.same(what + ", against(" + c + ", " + is + ")", m.against(c, is), due[c]);
+        }
+    }
+
+    static void promise8_goingIn() {
+        against("open", Ways.NEW, 1, 2, 2, 2);
+        against("shut", Ways.SHUT, 1, 5, 0, 5);
+        against("core 1 in", Ways.ONE_IN, 1, 0, 1, 0);
+        against("ready", Ways.READY, 1, 1, 1, 1);
+        against("hot", Ways.HOT, 1, 1, 1, 1);
+        against("cool, 2 out", Ways.COOL_ONE_OUT, 1, 1, 1, 3);
+        against("cool, all out", Ways.COOL_ALL_OUT, 1, 3, 3, 3);
+        against("fallen out", Ways.FALLEN, 1, 2, 2, 2);
+    }
+
+    static void promise8_goingOut() {
+        against("open", Ways.NEW, 0, 1, 1, 1);
+        against("shut", Ways.SHUT, 0, 1, 1, 1);
+        against("core 1 in", Ways.ONE_IN, 0, 1, 0, 1);
+        against("ready", Ways.READY, 0, 0, 4, 0);
+        against("0 out again", Ways.READY.andThen(m -> m.core(0, 0)), 0, 1, 6, 0);
+        against("2 out again", Ways.READY.andThen(m -> m.core(2, 0)), 0, 0, 4, 1);
+        against("hot", Ways.HOT, 0, 3, 3, 3);
+        against("cool", Ways.COOL, 0, 0, 4, 0);
+        against("cool, 2 out", Ways.COOL_ONE_OUT, 0, 0, 4, 1);
+        against("cool, all out", Ways.COOL_ALL_OUT, 0, 1, 1, 1);
+    }
+
+    /** 2 stands between 0 and 3: it alone is in the way, though 0 is lower. */
+    static void promise8_notByWayOfOthers() {
+        Consumer<Watched> shut = Ways.laid(NO_CORE + "c2;c9;c3;c9;").andThen(Ways.SHUT);
+        against("all out", shut, 1, 6, 0, 7, 0);
+        against("all in", shut.andThen(Ways.allFourIn()), 0, 0, 0, 4, 6);
+        Consumer<Watched> other = Ways.laid(NO_CORE + "c9;c9;c0;c2;").andThen(Ways.SHUT);
+        against("all out, the other way", other, 1, 0, 0, 4, 6);
+        against("all in, the other way", other.andThen(Ways.allFourIn()), 0, 6, 0, 7, 0);
+    }
+
+    static void promise8_theLowestOfSeveral() {
+        Consumer<Watched> all = Ways.laid(NO_CORE + "c3;c3;c3;c9;").andThen(Ways.SHUT).andThen(Ways.allFourIn());
+        against("all in", all, 0, 0, 0, 0, 4);
+        against("0 out", all.andThen(m -> m.core(0, 0)), 0, 1, 0, 0, 5);
+        against("0 and 1 out", all.andThen(m -> m.core(0, 0)).andThen(m -> m.core(1, 0)), 0, 1, 1, 0, 6);
+        against("1 out", all.andThen(m -> m.core(1, 0)), 0, 0, 1, 0, 4);
+        Consumer<Watched> behind = Ways.laid(NO_CORE + "c9;c0;c0;c0;").andThen(Ways.SHUT).andThen(Ways.allFourIn());
+        against("all in", behind, 0, 5, 0, 0, 0);
+        against("1 and 2 out", behind.andThen(m -> m.core(1, 0)).andThen(m -> m.core(2, 0)), 0, 7, 1, 1, 0);
+    }
+
+    static void promise8_nothingIsWhereItGoes() {
+        for (String name : Ways.all().keySet()) {
+            for (int c = 0; c < 3; c++) {
+                for (int is = 0; is <= 1; is++) {
+                    Watched m = Ways.gone(Ways.all().get(name));
+                    int against = m.against(c, is);
+                    int moved = m.core(c, is);
+                    Check.yes(name + ", core(" + c + ", " + is + ")",
+                        against == BAD ? moved == BAD : against == 0 ? moved >= 0 : moved == NO);
+                }
+            }
+        }
+    }
+
+    // ---- promise 9: drag
+
+    static void promise9_badWithNoCavityNorDrag() {
+        int[][] wrong = {{-1, 1}, {3, 1}, {6, 1}, {LEAST, 2}, {MOST, 2}, {0, 0}, {0, 10}, {0, -1}, {2, MOST}, {2, LEAST}};
         for (int[] w : wrong) {
-            Check.same("drag(" + w[0] + ", " + w[1] + ")", m.drag(w[0], w[1]), BAD);
+            Refused.call("drag(" + w[0] + ", " + w[1] + ")", Ways.TAUGHT, BAD, m -> m.drag(w[0], w[1]));
         }
-        Check.same("drag as it is", m.drag(1, 3), NO);
-        Check.same("drag", m.drag(1, 9), 3);
-        Check.same("drag", m.drag(1, 1), 9);
-        Check.same("drag now", m.cavity(1, 1), 1);
-        Check.same("other drag", m.cavity(0, 1), 2);
+        Watched six = Watched.laid("v1,1,1;v1,1,1;v1,1,1;v1,1,1;v1,1,1;v1,1,1;s0,1;");
+        Check.same("drag(5, 2), six cavities", six.drag(5, 2), 1);
+        Check.same("drag(6, 2), six cavities", six.drag(6, 2), BAD);
+        Watched one = Watched.laid(NO_CORE);
+        Check.same("drag(1, 2), one cavity", one.drag(1, 2), BAD);
+        Check.same("drag(0, 2), one cavity", one.drag(0, 2), 1);
     }
 
-    private static void speed() {
-        MouldShots m = new MouldShots();
-        int[][] wrong = {{-1, 1}, {3, 1}, {0, 0}, {0, 10}, {0, -1}, {Integer.MIN_VALUE, 2}, {0, Integer.MAX_VALUE}, {3, 0}};
+    static void promise9_noWhenItIsSo() {
+        Refused.call("drag(0, 2)", Ways.NEW, NO, m -> m.drag(0, 2));
+        Refused.call("drag(1, 9), told anew", Ways.TOLD_ANEW, NO, m -> m.drag(1, 9));
+    }
+
+    static void promise9_from1To9() {
+        Watched m = new Watched();
+        int was = 2;
+        for (int r : new int[] {1, 9, 8, 7, 6, 5, 4, 3, 2, 1}) {
+            Check.same("drag(0, " + r + ")", m.drag(0, r), was);
+            Check.same("cavity(0, 1)", m.cavity(0, 1), r);
+            was = r;
+        }
+        Check.same("cavity(0, 0)", m.cavity(0, 0), 12);
+        Check.same("cavity(0, 2)", m.cavity(0, 2), 6);
+        Check.same("cavity(1, 1)", m.cavity(1, 1), 3);
+    }
+
+    static void promise9_whateverStands() {
+        Check.same("hot", Ways.gone(Ways.HOT).drag(2, 9), 4);
+        Check.same("cool", Ways.gone(Ways.COOL).drag(2, 9), 4);
+        Check.same("shut", Ways.gone(Ways.SHUT).drag(2, 9), 4);
+    }
+
+    // ---- promise 10: speed
+
+    static void promise10_badWithNoStageNorSpeed() {
+        int[][] wrong = {{-1, 1}, {3, 1}, {4, 1}, {LEAST, 2}, {MOST, 2}, {0, 0}, {0, 10}, {0, -1}, {2, MOST}, {2, LEAST}};
         for (int[] w : wrong) {
-            Check.same("speed(" + w[0] + ", " + w[1] + ")", m.speed(w[0], w[1]), BAD);
+            Refused.call("speed(" + w[0] + ", " + w[1] + ")", Ways.TAUGHT, BAD, m -> m.speed(w[0], w[1]));
         }
-        Check.same("speed as it is", m.speed(1, 5), NO);
-        Check.same("speed", m.speed(1, 9), 5);
-        Check.same("speed", m.speed(1, 1), 9);
-        Check.same("speed", m.speed(1, 5), 1);
-        Check.same("other speed", m.speed(2, 4), 3);
+        Watched four = Watched.laid("v1,1,1;s0,1;s1,1;s2,1;s3,1;");
+        Check.same("speed(3, 2), four stages", four.speed(3, 2), 1);
+        Check.same("speed(4, 2), four stages", four.speed(4, 2), BAD);
     }
 
-    private static void tell() {
-        MouldShots m = new MouldShots();
+    static void promise10_noWhenItIsSo() {
+        Refused.call("speed(1, 5)", Ways.NEW, NO, m -> m.speed(1, 5));
+        Refused.call("speed(2, 1), told anew", Ways.TOLD_ANEW, NO, m -> m.speed(2, 1));
+    }
+
+    static void promise10_from1To9() {
+        Watched m = new Watched();
+        int was = 5;
+        for (int s : new int[] {1, 9, 8, 7, 6, 4, 3, 2, 5}) {
+            Check.same("speed(1, " + s + ")", m.speed(1, s), was);
+            was = s;
+        }
+        Check.same("speed(0, 9)", m.speed(0, 9), 2);
+        Check.same("speed(2, 9)", m.speed(2, 9), 3);
+    }
+
+    static void promise10_isGoneOnWith() {
+        Watched m = Watched.laid("v30,1,9;s0,1;o99,99,1;");
+        for (int s = 9; s >= 2; s--) {
+            m.speed(0, s);
+            Check.same("place with speed " + s, 99 - m.tried(0, 3) - 5, s);
+        }
+    }
+
+    // ---- promise 11: tell
+
+    static void promise11_edgesOfEach() {
         int[] least = {1, 1, 1, 0, 0, 0};
         int[] most = {99, 99, 40, 99, 20, 99};
         int[] was = {36, 60, 20, 50, 6, 9};
-        for (int what = 0; what < 6; what++) {
-            String call = "tell " + what;
-            Check.same(call, m.tell(what, least[what] - 1), BAD);
-            Check.same(call, m.tell(what, most[what] + 1), BAD);
-            Check.same(call, m.tell(what, Integer.MIN_VALUE), BAD);
-            Check.same(call, m.tell(what, was[what]), NO);
-            Check.same(call, m.tell(what, least[what]), was[what]);
-            Check.same(call, m.tell(what, most[what]), least[what]);
-            Check.same(call, m.tell(what, most[what]), NO);
+        for (int i = 0; i < 6; i++) {
+            int what = i;
+            for (int v : new int[] {least[i] - 1, most[i] + 1, LEAST, MOST}) {
+                Refused.call("tell(" + i + ", " + v + ")", Ways.TAUGHT, BAD, m -> m.tell(what, v));
+            }
+            Watched m = new Watched();
+            Check.same("tell(" + i + "), the least", m.tell(i, least[i]), was[i]);
+            Check.same("tell(" + i + "), the most", m.tell(i, most[i]), least[i]);
+            Check.same("tell(" + i + "), as it was", m.tell(i, was[i]), most[i]);
         }
-        Check.same("tell -1", m.tell(-1, 5), BAD);
-        Check.same("tell 6", m.tell(6, 5), BAD);
-        Check.same("tell most", m.tell(Integer.MAX_VALUE, 5), BAD);
     }
 
-    private static void shootAndCool() {
-        MouldShots m = new MouldShots();
-        Check.same("waitCool, nothing in it", m.waitCool(), NO);
-        Check.same("shoot while open", m.shoot(), NO);
-        m.mould(1);
-        Check.same("shoot with cores out", m.shoot(), NO);
-        m.core(1, 1);
-        m.core(0, 1);
-        Check.same("shoot with a core out", m.shoot(), NO);
-        m.core(2, 1);
-        Check.same("shoot", m.shoot(), 25);
-        Check.same("in it", m.count(5), 1);
-        Check.same("hot", m.count(14), 1);
-        Check.same("kept", m.count(6), 1);
-        Check.same("made", m.count(7), 1);
-        Check.same("shoot, one is in it", m.shoot(), NO);
-        Check.same("waitCool", m.waitCool(), 9);
-        Check.same("cool", m.count(14), 0);
-        Check.same("still in it", m.count(5), 1);
-        Check.same("waitCool twice", m.waitCool(), NO);
-        Check.same("shoot, a cool one is in it", m.shoot(), NO);
-        Check.empty(m);
-        Check.same("shoot while open again", m.shoot(), NO);
-        for (int made = 2; made <= 15; made++) {
-            m.speed(0, made % 9 + 1);
-            Check.cycle(m);
+    static void promise11_badWithNoneThatIsTold() {
+        for (int what : new int[] {-1, 6, 7, LEAST, MOST}) {
+            Refused.call("tell(" + what + ", 5)", Ways.TAUGHT, BAD, m -> m.tell(what, 5));
+        }
+    }
+
+    static void promise11_noWhenItIsSo() {
+        int[] was = {36, 60, 20, 50, 6, 9};
+        for (int i = 0; i < 6; i++) {
+            int what = i;
+            Refused.call("tell(" + i + ", " + was[i] + ")", Ways.NEW, NO, m -> m.tell(what, was[what]));
+        }
+        Refused.call("tell(3, 60), told anew", Ways.TOLD_ANEW, NO, m -> m.tell(3, 60));
+    }
+
+    static void promise11_eachIsItsOwn() {
+        Watched m = new Watched();
+        for (int what = 0; what < 6; what++) {
+            m.tell(what, 11 + what);
+        }
+        Check.settings(m, 11, 12, 13, 14, 15, 16);
+    }
+
+    static void promise11_isShotWith() {
+        Watched m = Watched.laid("v30,1,9;s0,2;o99,99,40;h0,0,0;");
+        m.tell(0, 5);
+        Check.same("PLACE 5", m.tried(0, 0), 3);
+        m.tell(1, 4);
+        Check.same("PRESSURE 4", m.tried(0, 0), 2);
+        m.tell(2, 1);
+        Check.same("TIME 1", m.tried(0, 0), 1);
+        m.tell(4, 3);
+        Check.same("3 TICKS of HOLD", m.tried(0, 1), 4);
+        Check.same("place with HOLD 0", m.tried(0, 3), 97);
+        m.tell(3, 99);
+        Check.same("place with HOLD 99", m.tried(0, 3), 94);
+        m.tell(5, 7);
+        Check.same("COOL 7", m.tried(0, 5), 11);
+    }
+
+    // ---- promise 12: shoot
+
+    static void promise12_noWhileItIsNotReady() {
+        Refused.call("shoot(), open", Ways.NEW, NO, Watched::shoot);
+        Refused.call("shoot(), cores out", Ways.SHUT, NO, Watched::shoot);
+        Refused.call("shoot(), two cores out", Ways.ONE_IN, NO, Watched::shoot);
+        Refused.call("shoot(), core 0 out", Ways.READY.andThen(m -> m.core(0, 0)), NO, Watched::shoot);
+        Refused.call("shoot(), core 2 out", Ways.READY.andThen(m -> m.core(2, 0)), NO, Watched::shoot);
+        Refused.call("shoot(), open, no cores", Ways.laid(NO_CORE), NO, Watched::shoot);
+        Refused.call("shoot(), fallen out", Ways.FALLEN, NO, Watched::shoot);
+    }
+
+    static void promise12_noWhileOneIsInIt() {
+        Refused.call("shoot(), hot", Ways.HOT, NO, Watched::shoot);
+        Refused.call("shoot(), cool", Ways.COOL, NO, Watched::shoot);
+        Refused.call("shoot(), cool, cores out", Ways.COOL_ALL_OUT, NO, Watched::shoot);
+        Refused.call("shoot(), cool, no cores", Ways.laid(NO_CORE).andThen(Ways.COOL), NO, Watched::shoot);
+    }
+
+    static void promise12_withNoCores() {
+        Watched m = Ways.gone(Ways.laid(NO_CORE).andThen(Ways.SHUT));
+        Check.same("count(11)", m.count(11), 1);
+        Check.yes("shoot()", m.shoot() > 0);
+    }
+
+    static void promise12_tellsHowLongItIs() {
+        Check.same("as at first", Ways.gone(Ways.READY).shoot(), 25);
+        Check.same("the shortest", Ways.gone(Ways.laid(NO_CORE + "o1,1,1;h0,0,0;").andThen(Ways.READY)).shoot(), 1);
+        String longest = "v30,1,9;v30,1,9;s0,1;o99,99,40;h0,20,99;";
+        Check.same("the longest", Ways.gone(Ways.laid(longest).andThen(Ways.READY)).shoot(), 159);
+    }
+
+    static void promise12_isInItAndHot() {
+        Watched m = Ways.gone(Ways.HOT);
+        Check.counts(m, 3, 3, 3, 1, 3, 1, 1, 1, 0, 2, 0, 1, 4, 0, 1);
+    }
+
+    static void promise12_theLast12AreKept() {
+        Watched m = Watched.laid("v9,1,1;v9,1,1;s0,1;o99,99,40;h0,0,0;");
+        for (int made = 1; made <= 40; made++) {
+            m.tell(2, made);
+            m.mould(1);
+            Check.same("shoot() " + made, m.shoot(), made);
             Check.same("kept", m.count(6), Math.min(made, 12));
             Check.same("made", m.count(7), made);
+            Check.same("the oldest", m.shot(0, 0), Math.max(1, made - 11));
+            m.waitCool();
+            m.mould(0);
+        }
+        for (int s = 0; s < 12; s++) {
+            Check.same("shot(" + s + ", 0)", m.shot(s, 0), 29 + s);
+        }
+        Check.same("shot(12, 0)", m.shot(12, 0), BAD);
+    }
+
+    static void promise12_again() {
+        Watched m = Ways.gone(Ways.FALLEN);
+        m.makeReady();
+        Check.same("shoot() again", m.shoot(), 25);
+        Check.same("count(7)", m.count(7), 2);
+    }
+
+    // ---- promise 13: waitCool
+
+    static void promise13_noWhileNothingHotIsInIt() {
+        Refused.call("waitCool(), open", Ways.NEW, NO, Watched::waitCool);
+        Refused.call("waitCool(), ready", Ways.READY, NO, Watched::waitCool);
+        Refused.call("waitCool(), cool", Ways.COOL, NO, Watched::waitCool);
+        Refused.call("waitCool(), cool, cores out", Ways.COOL_ALL_OUT, NO, Watched::waitCool);
+        Refused.call("waitCool(), fallen out", Ways.FALLEN, NO, Watched::waitCool);
+        Refused.call("waitCool(), ready again", Ways.FALLEN.andThen(Ways.READY), NO, Watched::waitCool);
+    }
+
+    static void promise13_tellsCoolFrom0To99() {
+        for (int cool : new int[] {0, 1, 8, 98, 99}) {
+            Watched m = Ways.gone(Ways.laid(NO_CORE + "h1,1," + cool + ";").andThen(Ways.HOT));
+            Check.same("hot with COOL " + cool, m.count(14), 1);
+            Check.same("mould(0), hot with COOL " + cool, m.mould(0), NO);
+            Check.same("waitCool()", m.waitCool(), cool);
+            Check.same("cool", m.count(14), 0);
+            Check.same("in it", m.count(5), 1);
+            Check.same("mould(0)", m.mould(0), 1);
         }
     }
 
-    private static void coolingIsOfTheShot() {
-        MouldShots m = Check.laid("v3,1,1;s0,1;h0,0,0;");
-        m.mould(1);
-        Check.yes("shoot", m.shoot() > 0);
-        Check.same("hot though cooling takes no tick", m.count(14), 1);
-        Check.same("cooling", m.waitCool(), 0);
+    static void promise13_coolAsItWasWhenTheShotWasMade() {
+        Watched m = Ways.gone(Ways.HOT);
+        m.tell(5, 99);
+        Check.same("waitCool(), COOL told anew", m.waitCool(), 9);
+        Check.same("tell(5, 0)", m.tell(5, 0), 99);
+        Check.same("shot(0, 5)", m.shot(0, 5), 25);
+        m.coresOut();
         m.mould(0);
-        m.tell(5, 17);
-        m.mould(1);
-        int whole = m.shoot();
-        Check.same("long, with its cooling", whole, m.shot(1, 1) + 17);
-        m.tell(5, 4);
-        Check.same("cooling as it was", m.waitCool(), 17);
-        Check.same("long as it was", m.shot(1, 5), whole);
+        m.makeReady();
+        Check.same("shoot()", m.shoot(), 16);
+        m.tell(5, 12);
+        Check.same("waitCool() of the next", m.waitCool(), 0);
     }
 
-    /** All that can be seen, in a row. */
-    private static int[] seen(MouldShots m) {
-        int[] row = new int[420];
-        int at = 0;
-        for (int what = 0; what < 15; what++) {
-            row[at++] = what == 12 ? 0 : m.count(what);
-        }
-        for (int c = 0; c < 3; c++) {
-            row[at++] = m.cavity(c, 1);
-            row[at++] = m.against(c, 0);
-            row[at++] = m.against(c, 1);
-        }
-        for (int tick = 1; tick <= 25; tick++) {
-            row[at++] = m.band(tick, 0);
-            row[at++] = m.band(tick, 1);
-        }
-        for (int s = 0; s < m.count(6); s++) {
-            for (int what = 0; what < 9; what++) {
-                row[at++] = m.shot(s, what);
-            }
-            for (int c = 0; c < 3; c++) {
-                row[at++] = m.filled(s, c, 0);
-                row[at++] = m.filled(s, c, 4);
-            }
-        }
-        for (int what = 0; what < 7; what++) {
-            row[at++] = m.tried(0, what);
-            row[at++] = m.tried(3, what);
-        }
-        return row;
-    }
-
-    private static int change(MouldShots m, int which) {
-        switch (which) {
-            case 0: return m.shoot();
-            case 1: return m.waitCool();
-            case 2: return m.mould(m.count(3) == 0 ? 1 : 0);
-            case 3: return m.core(1, 1);
-            case 4: return m.core(2, 0);
-            case 5: return m.teach(0);
-            case 6: return m.forget();
-            case 7: return m.wide(20);
-            case 8: return m.drag(1, 8);
-            case 9: return m.speed(1, 8);
-            default: return m.tell(which - 10, which == 14 ? 3 : which == 15 ? 30 : which == 12 ? 4 : 15);
-        }
-    }
-
-    /** Each change where it can be made: 0 open, 1 shut, 2 ready, 3 hot, 4 cool, all behind a taught shot. */
-    private static void undoOfEachChange() {
-        int done = 0;
-        for (int stand = 0; stand < 5; stand++) {
-            for (int which = 0; which < 16; which++) {
-                MouldShots m = new MouldShots();
-                Check.cycle(m);
-                m.teach(0);
-                m.speed(0, 3);
-                if (stand == 1) {
-                    m.mould(1);
-                }
-                if (stand >= 2) {
-                    Check.ready(m);
-                }
-                if (stand >= 3) {
-                    m.shoot();
-                }
-                if (stand == 4) {
-                    m.waitCool();
-                }
-                int undoable = m.count(12);
-                int[] ahead = seen(m);
-                int answer = change(m, which);
-                if (answer < 0) {
-                    Check.same("undoable behind a refused change", m.count(12), undoable);
-                    continue;
-                }
-                done++;
-                Check.same("undoable", m.count(12), 4);
-                Check.same("undo", m.undo(), 3);
-                same("stand " + stand + ", change " + which, seen(m), ahead);
-            }
-        }
-        Check.yes("all kinds of changes were tried", done > 50);
-    }
-
-    private static void same(String what, int[] got, int[] due) {
-        for (int i = 0; i < due.length; i++) {
-            Check.same(what + ", row " + i, got[i], due[i]);
-        }
-    }
-
-    private static void undoGoesBackFour() {
-        MouldShots m = new MouldShots();
-        Check.same("nothing to undo", m.undo(), NO);
-        for (int w = 3; w <= 9; w++) {
-            m.wide(w);
-            Check.same("undoable", m.count(12), Math.min(4, w - 2));
-        }
-        for (int left = 3; left >= 0; left--) {
-            Check.same("undo", m.undo(), left);
-            Check.same("wide", m.count(9), 5 + left);
-        }
-        Check.same("no more", m.undo(), NO);
-        Check.same("wide", m.count(9), 5);
-        m.wide(11);
-        m.wide(12);
-        Check.same("undo behind undo", m.undo(), 1);
-        Check.same("wide", m.count(9), 11);
-        m.wide(13);
-        Check.same("undo", m.undo(), 1);
-        Check.same("undo", m.undo(), 0);
-        Check.same("wide", m.count(9), 5);
-        m.write('a');
-        m.wipe();
-        Check.same("the text is no change", m.count(12), 0);
-    }
-
-    private static void undoBringsShotsBack() {
-        MouldShots m = Check.laid("v9,1,9;s0,1;o1,99,40;h0,0,0;");
-        for (int i = 0; i < 14; i++) {
-            m.tell(0, i + 1);
+    static void promise13_ofTheShotThatIsInIt() {
+        Watched m = Watched.laid(NO_CORE + "o1,1,1;h0,0,0;");
+        for (int made = 1; made <= 30; made++) {
+            m.tell(5, made);
             m.mould(1);
-            m.shoot();
-            if (i < 13) {
-                m.waitCool();
-                m.mould(0);
-            }
+            Check.same("shoot()", m.shoot(), 1 + made);
+            Check.same("waitCool()", m.waitCool(), made);
+            m.mould(0);
         }
-        Check.same("oldest that is kept", m.shot(0, 0), 3);
-        Check.same("newest", m.shot(11, 0), 14);
-        Check.same("undo", m.undo(), 3);
-        Check.same("made", m.count(7), 13);
-        Check.same("kept", m.count(6), 12);
-        Check.same("the oldest is back", m.shot(0, 0), 2);
-        Check.same("newest", m.shot(11, 0), 13);
-        Check.same("nothing is in it", m.count(5), 0);
-        Check.same("no shot so far", m.shot(12, 0), BAD);
-        m.undo();
-        m.undo();
-        Check.same("undo of the opening", m.undo(), 0);
-        Check.same("the one ahead is in it again", m.count(5), 1);
-        Check.same("it is cool", m.count(14), 0);
-        Check.same("no more", m.undo(), NO);
-        m.mould(0);
-        m.tell(0, 8);
-        m.mould(1);
-        m.shoot();
-        Check.same("newest", m.shot(11, 0), 8);
-        Check.same("oldest", m.shot(0, 0), 3);
-        m.undo();
-        Check.same("the oldest is back again", m.shot(0, 0), 2);
     }
 
-    private static void refusedCallsChangeNothing() {
-        MouldShots m = new MouldShots();
-        Check.cycle(m);
-        Check.ready(m);
-        m.shoot();
-        int[] ahead = seen(m);
-        int[] answers = {m.mould(0), m.mould(1), m.mould(5), m.core(0, 0), m.core(0, 1), m.core(9, 1), m.drag(0, 2),
-            m.drag(0, 0), m.speed(0, 2), m.speed(9, 2), m.tell(0, 36), m.tell(0, 0), m.shoot(), m.teach(2), m.teach(-1),
-            m.forget(), m.wide(2), m.wide(21), m.write(5), m.lay(), m.band(0, 0), m.shot(5, 0), m.order(-1)};
-        for (int answer : answers) {
-            Check.yes("refused: " + answer, answer == BAD || answer == NO || answer == NONE);
+    // ---- terms, part 3: READY
+
+    static void terms3_readyIsShutAndAllCoresIn() {
+        List<String> ready = List.of("ready", "hot", "cool", "taught and hot");
+        for (String name : Ways.all().keySet()) {
+            boolean due = ready.contains(name);
+            Check.same(name + ", count(11)", Ways.gone(Ways.all().get(name)).count(11), due ? 1 : 0);
         }
-        same("refused calls", seen(m), ahead);
-        Check.same("undoable", m.count(12), 4);
+    }
+
+    static void terms3_hotTillItsCoolingIsOver() {
+        Watched m = Ways.gone(Ways.HOT);
+        m.mould(0);
+        m.core(0, 0);
+        m.undo();
+        Check.same("the shot undone", m.count(14), 0);
+        m.shoot();
+        Check.same("hot again", m.count(14), 1);
+        m.waitCool();
+        Check.same("cool", m.count(14), 0);
+        m.undo();
+        Check.same("the cooling undone", m.count(14), 1);
+        Check.same("waitCool() again", m.waitCool(), 9);
+        Check.same("earlier(1)", m.earlier(1), NONE);
     }
 }
