@@ -180,6 +180,26 @@ final class UndoTest {
         }
     }
 
+    static void promise14_theBandInItsSixtiethTick() {
+        Watched m = Watched.shotOf("v20,1,9;v20,1,9;s0,1;o99,99,40;h30,20,0;");
+        m.teach(0);
+        for (int w = 3; w <= 9; w++) {
+            m.wide(w);
+            sixtiethTick(m, 30);
+        }
+        m.forget();
+        sixtiethTick(m, NONE);
+        for (int i = 0; i < 4; i++) {
+            m.undo();
+            sixtiethTick(m, 30);
+        }
+    }
+
+    private static void sixtiethTick(Watched m, int due) {
+        Check.same("band(60, 0)", m.band(60, 0), due);
+        Check.same("band(60, 1)", m.band(60, 1), due);
+    }
+
     static void promise14_noChangeIsLeftBehindAShotThatWasUndone() {
         Watched m = Ways.gone(Ways.READY);
         m.shoot();
