@@ -14,6 +14,7 @@ public final class AllTests {
         tests.run(RefusedTest.class);
         tests.eachPromiseHasOne();
         LanguageTest.run();
+        ReadmeTest.run();
         if (args.length == 0) {
             ComparedRuns.run();
         }
